@@ -41,7 +41,7 @@ public final class EveryMapWrong {
     private final int[] worldsBySet = new int[MOST_SETS];
     private final int[] soBySet = new int[MOST_SETS];
     private final boolean[] wanted = new boolean[MOST_SETS];
-    private final AtWorst atWorst = new AtWorst();
+    private final AtWorst atWorst = new AtWorst(streets);
 
     public EveryMapWrong() {
         for (int i = 0; i < FIRST_LAW.length(); i++) {
@@ -138,9 +138,6 @@ public final class EveryMapWrong {
         }
         if (more < 0 || more > 9 || kind == Chart.COPY && more >= atlas.size) {
             return BAD;
-        }
-        if (atlas.size >= MOST_MAPS) {
-            return FULL;
         }
         return atlas.add(kind, says, mask, more);
     }
@@ -252,8 +249,7 @@ public final class EveryMapWrong {
         if (!mayBeRight(t)) {
             return MAY_NOT_BE;
         }
-        int against = atlas.everyMap() & ~atlas.agreeingWith(t);
-        return against == 0 ? NOTHING : Integer.numberOfTrailingZeros(against);
+        return firstOf(atlas.everyMap() & ~atlas.agreeingWith(t));
     }
 
     // ---- ways
@@ -265,10 +261,7 @@ public final class EveryMapWrong {
         if (c != Street.ALWAYS && !isChoice(c) || takes < 1 || takes > 99) {
             return BAD;
         }
-        if (streets.size >= MOST_STREETS) {
-            return FULL;
-        }
-        return streets.add(new Street(u, v, c, takes));
+        return streets.add(u, v, c, takes);
     }
 
     public int way(int two, int t) {
@@ -298,7 +291,7 @@ public final class EveryMapWrong {
         if (!findFewWorlds()) {
             return STATE;
         }
-        atWorst.study(streets, found, goalOf(two));
+        atWorst.study(found, goalOf(two));
         return atWorst.longestFrom(startOf(two));
     }
 
@@ -312,7 +305,7 @@ public final class EveryMapWrong {
         if (!findFewWorlds() || found.placeOf(t) < 0) {
             return STATE;
         }
-        atWorst.study(streets, found, goalOf(two));
+        atWorst.study(found, goalOf(two));
         return atWorst.firstStreet(startOf(two), found.placeOf(t));
     }
 
@@ -713,6 +706,16 @@ public final class EveryMapWrong {
         return (town >> c & 1) == 1;
     }
 
+    /** The lowest of some numbers that are told as bits; -1, if there is none. */
+    private static int firstOf(int set) {
+        for (int i = 0; i < 31; i++) {
+            if ((set >> i & 1) == 1) {
+                return i;
+            }
+        }
+        return NOTHING;
+    }
+
     private static int bounded(int value) {
         return Math.max(0, Math.min(MOST_VALUE, value));
     }
@@ -887,6 +890,7 @@ public final class EveryMapWrong {
             return m >= 0 && m < size && m < charts.length ? charts[m] : null;
         }
 
+        /** The number of a new map; FULL, if there can be no more. */
         int add(int kind, int says, int mask, int more) {
             if (size < 0 || size >= charts.length) {
                 return FULL;
@@ -1102,11 +1106,12 @@ public final class EveryMapWrong {
             return s >= 0 && s < size && s < list.length ? list[s] : null;
         }
 
-        int add(Street street) {
+        /** The number of a new street; FULL, if there can be no more. */
+        int add(int u, int v, int choice, int takes) {
             if (size < 0 || size >= list.length) {
                 return FULL;
             }
-            list[size] = street;
+            list[size] = new Street(u, v, choice, takes);
             size++;
             return size - 1;
         }
@@ -1209,20 +1214,23 @@ public final class EveryMapWrong {
         private final int[] longest = new int[PLACES * SETS];
         private final int[] openByWorld = new int[Worlds.FEW];
         private final int[] streetsAt = new int[PLACES];
-        private Streets streets;
+        private final Streets streets;
         private int everyWorld;
         private int goal;
 
+        AtWorst(Streets streets) {
+            this.streets = streets;
+        }
+
         /** What one sees only makes a set smaller, so the smaller sets are settled first. */
-        void study(Streets known, Worlds worlds, int goalPlace) {
-            streets = known;
+        void study(Worlds worlds, int goalPlace) {
             goal = goalPlace;
             everyWorld = (1 << Math.min(worlds.size, Worlds.FEW)) - 1;
             for (int w = 0; w < openByWorld.length; w++) {
-                openByWorld[w] = known.openIn(Math.max(0, worlds.townAt(w)));
+                openByWorld[w] = streets.openIn(Math.max(0, worlds.townAt(w)));
             }
             for (int place = 0; place < streetsAt.length; place++) {
-                streetsAt[place] = known.touching(place);
+                streetsAt[place] = streets.touching(place);
             }
             for (int set = 1; set <= everyWorld; set++) {
                 settle(set);
@@ -1238,7 +1246,7 @@ public final class EveryMapWrong {
         int firstStreet(int start, int world) {
             int set = lookingLike(world, start, everyWorld);
             int time = longestFor(start, set);
-            if (start == goal || time >= NEVER || streets == null) {
+            if (start == goal || time >= NEVER) {
                 return NOTHING;
             }
             int open = openAt(start, world);
@@ -1272,7 +1280,7 @@ public final class EveryMapWrong {
         }
 
         private void settle(int set) {
-            int world = Integer.numberOfTrailingZeros(set);
+            int world = firstOf(set);
             int decided = 0;
             for (int place = 0; place < PLACES; place++) {
                 boolean tells = lookingLike(world, place, set) != set;
@@ -1301,8 +1309,8 @@ public final class EveryMapWrong {
         /** Where a set shows nothing new, one goes on by any open street and still knows only the set. */
         private boolean shortenAll(int set, int world, int decided) {
             boolean changed = false;
-            for (int s = 0; s < MOST_STREETS; s++) {
-                Street street = streets == null ? null : streets.streetAt(s);
+            for (int s = 0; s < streets.size; s++) {
+                Street street = streets.streetAt(s);
                 if (street != null && (numberAt(openByWorld, world) >> s & 1) == 1) {
                     changed |= (decided >> street.u & 1) == 0 && shorten(street, street.u, set);
                     changed |= (decided >> street.v & 1) == 0 && shorten(street, street.v, set);

@@ -23,10 +23,10 @@ public final class DrawingTest {
     }
 
     private static void draws(EveryMapWrong x, int tree, int... origins) {
-        due.is("tree()", x.tree(), tree);
         for (int m = 0; m < origins.length; m++) {
             due.is("drawnFrom(" + m + ")", x.drawnFrom(m), origins[m]);
         }
+        due.is("tree()", x.tree(), tree);
         due.is("drawnFrom(" + origins.length + ")", x.drawnFrom(origins.length), -5);
         due.is("drawnFrom(-1)", x.drawnFrom(-1), -5);
     }
@@ -75,6 +75,9 @@ public final class DrawingTest {
     }
 
     private static void promise37Join() {
+        EveryMapWrong y = new EveryMapWrong();
+        y.map(3, 0, 63, 0);
+        due.is("join of the first map", y.join(), 7);
         EveryMapWrong x = new EveryMapWrong();
         x.town(4);
         due.is("join without parts", x.join(), 16);
@@ -113,6 +116,9 @@ public final class DrawingTest {
         due.is("years, there are none", x.years(0, 1), -1);
         due.is("years by the part, most", x.years(1, 1), 3);
         due.is("years by the part, least", x.years(1, 0), 1);
+        EveryMapWrong y = town(3, 6, 6);
+        y.look(1, 0);
+        due.is("years of a map with one slip, most", y.years(0, 1), 0);
         due.is("years(0, 2)", x.years(0, 2), -7);
         due.is("years(0, -1)", x.years(0, -1), -7);
         due.is("years(2, 0)", x.years(2, 0), -5);
@@ -144,6 +150,7 @@ public final class DrawingTest {
         x.price(2, 0);
         due.is("for nothing", x.buy(0, 0), 3);
         due.is("for nothing", x.buy(0, 1), 2);
+        due.is("all maps together", town(3, 3, 5, 6).buy(3, 0), 7);
         due.is("buy(-1, 0)", x.buy(-1, 0), -2);
         due.is("buy(10000, 0)", x.buy(10000, 0), -2);
         due.is("buy(0, 2)", x.buy(0, 2), -2);

@@ -146,6 +146,15 @@ public final class TownTest {
         faulty("May 1;harm 1;price 1;", 0);
         faulty("may e;harm 1;price 1;", 4);
         faulty("may ab;harm 1;price 1;", 4);
+        faulty("may az;harm 1;price 1;", 4);
+        faulty("may za;harm 1;price 1;", 4);
+        faulty("may a{;harm 1;price 1;", 5);
+        faulty("may a`;harm 1;price 1;", 5);
+        faulty("may not xy a;harm 1;price 1;", 8);
+        faulty("may not @ a;harm 1;price 1;", 8);
+        faulty("may - @ a;harm 1;price 1;", 6);
+        faulty("may 1 :;harm 1;price 1;", 6);
+        faulty("may a,b;harm 1;price 1;", 5);
         faulty("may may;harm 1;price 1;", 4);
         faulty("may world;harm 1;price 1;", 4);
         faulty("may 12345;harm 1;price 1;", 4);
@@ -246,6 +255,8 @@ public final class TownTest {
         allows("- a = 0-1 and -b<0 and -(c-2) = 1", 7, 15);
         allows("1 - -1 = 2 and 2 - 3 - 4 = -5 and 2 - 3 * 4 = -10 and a*b*c", 7, 15);
         allows("(a or 2) = 1 and (3 and d) = 1 and (not 5) = 0 and b and c", 14, 15);
+        allows("(not 0) = 1 and (1 < 2) = 1 and (3 = 3) = 1 and (2 and 3) = 1 and a*b*c*d", 15);
+        allows("(not 2) = 0 and (2 < 2) = 0 and (3 = 2) = 0 and (2 and 0) = 0 and a*b*c*d", 15);
         allows("(7) = 7 and (0 or 7) = 1 and c*d*b", 14, 15);
 
         EveryMapWrong y = new EveryMapWrong();

@@ -291,6 +291,16 @@ public final class WaysTest {
         due.is("trick(7, 0, 1)", x.trick(7, 0, 1), 3);
         due.is("trick(5, 2, 0) of one without a way", x.trick(5, 2, 0), 0);
         due.is("trick(5, 2, 1) of one without a way", x.trick(5, 2, 1), 0);
+        EveryMapWrong y = new EveryMapWrong();
+        y.town(3);
+        y.street(0, 1, 2, 1);
+        y.street(0, 1, 1, 2);
+        y.street(0, 1, -1, 9);
+        y.goer(1);
+        due.is("the choice behind the first", y.trick(2, 0, 0), 1);
+        due.is("the choice behind the first", y.trick(2, 0, 1), 7);
+        due.is("the last choice", y.trick(4, 0, 0), 2);
+        due.is("the last choice", y.trick(4, 0, 1), 8);
         due.is("no such goer", x.trick(5, 3, 0), -5);
         due.is("no such goer", x.trick(5, -1, 0), -5);
         due.is("no such town", x.trick(8, 3, 0), -2);
