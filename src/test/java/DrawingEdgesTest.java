@@ -75,7 +75,7 @@ public final class DrawingEdgesTest {
         }
         run("36: -5 without MAPS").leaves("over 0 0 0", -5).leaves("over 0 0 2", -5);
         says("36: a MAP over itself", 9, 0, 511).leaves("over 0 0 0", 0).leaves("over 0 0 1", 0).leaves("over 0 1 0", 511)
-            .leaves("over 1 0 1", 9);
+            .leaves("over 1 0 1", 9).leaves("over 1 1 0", 0).leaves("over 1 1 1", 0);
         run("36: a PART shows its MASK, others all", "town 4", "map 3 15 0 0", "map 3 0 6 0", "map 3 15 12 0", "map 2 0 0 0",
             "map 4 15 0 0").leaves("over 0 1 0", 0).leaves("over 1 2 0", 4).leaves("over 2 1 1", 1).leaves("over 2 3 0", 12)
             .leaves("over 3 4 0", 15).leaves("over 0 3 0", 0).leaves("over 1 4 0", 6).leaves("over 1 3 0", 0)

@@ -38,6 +38,22 @@ public final class TownEdgesTest {
         }
     }
 
+    private static void lastCallOfAnObject() {
+        Run run = run("What it is: an object is used for at most 512 calls", "town 9", "map 2 0 0 0", "street 0 1 -1 7");
+        for (int calls = 4; calls <= 510; calls++) {
+            run.is("look " + calls % 9 + " -1", -1);
+        }
+        run.is("worlds 1", 10).is("soon 1", -3);
+    }
+
+    private static void objectsHaveNothingInCommon() {
+        Run one = run("1: a new object, whatever another one has", "town 9", "law may a;harm 1;price 1;", "tape may",
+            "sheet 0 0 4", "look 0 1", "goer 1", "image", "map 0 0 0 0", "street 0 1 -1 1");
+        newObject();
+        one.is("count 0", 9).is("count 1", 1).is("count 2", 1).is("count 3", 1).is("count 4", 2).is("count 5", 1)
+            .is("count 6", 3).is("count 7", 1).is("count 8", 1).is("cell 0 3 0", 1).is("back", 0);
+    }
+
     // ---- promise 2
 
     private static void townTakesOneToNine() {
@@ -239,9 +255,12 @@ public final class TownEdgesTest {
     private static void wordsAreKeysOrNames() {
         String sentence = "Terms: a WORD that is neither KEY nor NAME";
         for (String word : new String[] {"e", "z", "ab", "fa", "farr", "world", "worldss", "nots", "no", "an", "ands", "o",
-            "orr", "mayy", "ma", "harms", "pric", "prices", "x", "aa", "worldsfar"}) {
+            "orr", "mayy", "ma", "harms", "pric", "prices", "x", "aa", "az", "za", "worldsfar"}) {
             faulty(sentence, "may 1+ " + word + ";harm 1;price 1;", 7);
             faulty(sentence, "may 1 " + word + ";harm 1;price 1;", 6);
+            faulty(sentence, "may not " + word + " a;harm 1;price 1;", 8);
+            faulty(sentence, "may -" + word + " a;harm 1;price 1;", 5);
+            faulty(sentence, "may(" + word + " a);harm 1;price 1;", 4);
             faulty(sentence, word + " 1;harm 1;price 1;", 0);
         }
         for (String name : new String[] {"a", "b", "c", "d", "far", "worlds"}) {
@@ -406,6 +425,8 @@ public final class TownEdgesTest {
 
     public static void main(String[] args) {
         newObject();
+        lastCallOfAnObject();
+        objectsHaveNothingInCommon();
         townTakesOneToNine();
         townsHaveSoManyChoices();
         townTellsHowManyThereWere();

@@ -138,6 +138,12 @@ public final class WaysEdgesTest {
         run("Terms: it takes least in the WORLD in which it takes most", "town 1", "street 0 2 -1 10", "street 0 1 -1 1",
             "street 1 2 0 1").leaves("soon 2", 10).leaves("step 2 1", 0).leaves("step 2 0", 0).leaves("soon 12", 11)
             .leaves("step 12 1", 2).leaves("step 12 0", 1);
+        run("Terms: the WORLD in which it takes most, of those that one sees apart at the first PLACE", "town 2",
+            "law may a+b=1;harm 1;price 1;", "street 0 1 0 1", "street 0 2 1 2", "street 2 0 -1 20").leaves("soon 2", 20)
+            .leaves("step 2 1", 2).leaves("step 2 2", 1).leaves("soon 12", -1);
+        run("Terms: of those that one sees apart, whichever end of the STREET one is at", "town 2",
+            "law may a+b=1;harm 1;price 1;", "street 2 1 0 1", "street 2 1 -1 40", "street 1 0 -1 1").leaves("soon 12", 40)
+            .leaves("soon 2", 41).leaves("step 12 1", 0).leaves("step 12 2", 1).leaves("step 2 1", 2);
         run("22: -1: one can't be sure to come there", "town 1", "street 0 1 0 1").leaves("soon 1", -1).leaves("way 1 1", 1)
             .does("look 0 1").leaves("soon 1", 1).does("look 0 0").leaves("soon 1", -1);
         run("22: the longest there can be", "town 1", "street 0 1 -1 99", "street 1 2 -1 99", "street 2 3 -1 99",
@@ -210,6 +216,11 @@ public final class WaysEdgesTest {
             "street 0 2 -1 1", "street 2 1 0 1", "street 0 1 -1 50").leaves("trip 0 1 0", 52).leaves("trip 0 1 1", 1);
         run("24: what a PART SAYS counts whole", "town 2", "map 3 3 0 0", "street 0 1 0 1", "street 0 1 1 5")
             .leaves("trip 0 1 3", 1).leaves("trip 0 1 2", 5).leaves("trip 0 1 0", -1);
+        // One goes to and fro between 0 and 4, each time to find another STREET to 5 shut, but for the last.
+        run("24: often in vain", "town 1", "map 0 1 0 0", "street 0 1 -1 1", "street 1 2 -1 1", "street 2 3 -1 1",
+            "street 3 4 -1 1", "street 4 5 0 1", "street 0 5 0 6", "street 4 5 0 11", "street 0 5 0 16", "street 4 5 0 21",
+            "street 0 5 0 26", "street 4 5 0 31").leaves("trip 0 5 0", -1).leaves("trip 0 5 1", 5)
+            .does("street 5 0 -1 36").leaves("trip 0 5 0", 8 * 4 + 36).leaves("way 5 0", 36);
         Run far = run("24: the longest way in vain", "town 1", "map 0 1 0 0", "street 0 1 -1 99", "street 1 2 -1 99",
             "street 2 3 -1 99", "street 3 4 -1 99", "street 4 5 0 1");
         far.leaves("trip 0 5 0", -1).does("street 0 5 -1 99", "street 0 5 -1 99").leaves("trip 0 5 0", 99)
@@ -322,6 +333,9 @@ public final class WaysEdgesTest {
             .leaves("trick 4 0 0", 2);
         run("28: of like ones the first", first).leaves("trick 0 0 0", 0).leaves("trick 0 0 1", 0).leaves("trick 7 1 0", 0)
             .leaves("trick 7 1 1", 0);
+        // Were there a slip beyond the last CHOICE, it would do no harm, by which this law finds most.
+        run("28: CHOICES alone", "town 1", "street 0 1 0 1", "goer 1", "law may 1;harm 200-far;price 1;")
+            .leaves("trick 1 0 0", 0).leaves("trick 1 0 1", 101).leaves("put 1 1", 101);
         run("28: of like ones the first", "town 3", "street 0 1 1 1", "street 1 2 2 1", "goer 2").leaves("trick 6 0 0", 1)
             .leaves("trick 6 0 1", 99);
     }
