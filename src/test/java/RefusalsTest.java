@@ -1,4 +1,5 @@
 import java.util.ArrayList;
+import java.util.Collections;
 import java.util.List;
 
 /**
@@ -194,13 +195,9 @@ public final class RefusalsTest {
         if (refusal < 0) {
             due.is(told, answer, refusal);
         }
-        // Of like refusals a few are held against a twin; so is what no number refuses, if it only asks.
+        // Each answer is held against a twin a few times alone, since most are alike.
         String like = answer + " " + (refusal < 0);
-        int many = 0;
-        for (String s : shown) {
-            many += s.equals(like) ? 1 : 0;
-        }
-        if (many < 3 && (asks || answer < -1 && answer > -16 && !call.startsWith("mapsBy"))) {
+        if ((asks || refusal < 0 || refuses(call, answer)) && Collections.frequency(shown, like) < 3) {
             shown.add(like);
             for (int part = 0; part < Probe.PARTS; part++) {
                 EveryMapWrong x = fresh();
@@ -209,6 +206,11 @@ public final class RefusalsTest {
                     Probe.ask(x, part).equals(Probe.ask(fresh(), part)));
             }
         }
+    }
+
+    /** Whether an answer is a refusal that changes nothing: mapsBy brings the MAPS that stood ahead of a -12. */
+    private static boolean refuses(String call, int answer) {
+        return answer >= -14 && answer <= -2 && !(call.startsWith("mapsBy") && answer == -12);
     }
 
     /** sheet() has a number that does not always matter. */
