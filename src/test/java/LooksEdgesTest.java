@@ -88,6 +88,8 @@ public final class LooksEdgesTest {
         law("32: STATE: more than 7", 3, "1").leaves("looks", -3);
         run("32: STATE: many more than 7", "town 9").leaves("looks", -3);
         law("32: seven", 3, "a or b or c").leaves("looks", 3);
+        law("32: a CHOICE that is so in none, or in all, parts nothing", 5, "d=0 and (a or b or c)").does("look 4 1")
+            .leaves("worlds 0", 7).leaves("looks", 3).does("look 4 0").leaves("looks", 3);
         law("32: till there is one WORLD: none of one", 3, "a and b and c").leaves("looks", 0);
         law("32: one of two", 3, "a and b").leaves("looks", 1);
         law("32: of two that are unlike in all", 3, "a=b and b=c").leaves("looks", 1);
